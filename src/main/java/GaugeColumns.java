@@ -8,6 +8,7 @@ public final class GaugeColumns {
     private static final int MAX_RINGS = 14, MAX_GAUGES = 6, MAX_STATES = 6, MAX_SLOTS = 2;
     private static final int CARRIER = 100, MAX_GRAMS = 9999, MAX_ERROR = 99, MAX_PLAY = 99, MAX_STEP = 99;
     private static final int MAX_TEXT = 80, MAX_AT_ONCE = 8, MAX_DIGITS = 4, FIRST_CODE = 33, LAST_CODE = 126;
+    private static final int GREATEST_INT = 0x7fffffff;
 
     // Of AIR, AREA and ALLOWED, in this order.
     private static final int[] AT_FIRST = {4, 10, 50};
@@ -162,7 +163,7 @@ public final class GaugeColumns {
         }
         trial.prepare(now);
         int best = -MAX_ERROR;
-        int least = Integer.MAX_VALUE;
+        int least = GREATEST_INT;
         for (int error = -MAX_ERROR; error <= MAX_ERROR; error++) {
             trial.run(tested, error);
             if (trial.greatest < least) {
@@ -444,7 +445,7 @@ public final class GaugeColumns {
         /** Goes through the sets in the order of their numbers, so that of equal ones the least stays. */
         int nearestTo(int wanted) {
             int best = 0;
-            int least = Integer.MAX_VALUE;
+            int least = GREATEST_INT;
             int mass = CARRIER;
             for (int rings = 0; rings < 1 << ringCount; rings++) {
                 int off = Math.abs(pressureOf(mass, settings[AIR]) - wanted);

@@ -6,6 +6,7 @@ public final class HistoryTest {
         undo();
         undoOfSix();
         undoOfEachChange();
+        undoOverAnother();
         undoAroundTheCircle();
         notUndone();
         certificatesComeBack();
@@ -41,16 +42,20 @@ public final class HistoryTest {
         Due.is("undo: the oldest were dropped", x.count(9), 2);
     }
 
+    /** A new object for each, so that no state of the history was the one before already. */
     private static void undoOfEachChange() {
-        GaugeColumns x = new GaugeColumns();
-        x.ring(300);
-        x.ring(10);
-        x.gauge(0, 40, 3);
-        x.stack(1);
-        x.certify(0);
-        x.save(1);
-        int[] before = state(x);
         for (int change = 0; change < 10; change++) {
+            GaugeColumns x = new GaugeColumns();
+            x.ring(300);
+            x.ring(10);
+            x.gauge(0, 40, 3);
+            x.stack(1);
+            x.certify(0);
+            x.save(1);
+            if (change == 9) {
+                x.set(0, 9);
+            }
+            int[] before = state(x);
             int could = Math.min(x.count(11) + 1, 6);
             change(x, change);
             Due.is("undo: recorded " + change, x.count(11), could);
@@ -60,6 +65,34 @@ public final class HistoryTest {
                 Due.is("undo: of " + change + ", " + i, behind[i], before[i]);
             }
         }
+    }
+
+    /** What comes in the place of something undone leaves no trace in it. */
+    private static void undoOverAnother() {
+        GaugeColumns x = new GaugeColumns();
+        x.ring(5);
+        x.gauge(1, 2, 3);
+        x.save(0);
+        x.undo();
+        x.lose();
+        x.ring(7);
+        x.gauge(4, 5, 6);
+        x.restore(0);
+        int[] restored = {x.ofRing(0, 0), x.ofGauge(0, 0), x.ofGauge(0, 1), x.ofGauge(0, 2), x.ofGauge(0, 3)};
+        int[] due = {5, 101, 2, 3, 999};
+        for (int i = 0; i < due.length; i++) {
+            Due.is("restore: over another", restored[i], due[i]);
+        }
+        x.undo();
+        int[] undone = {x.ofRing(0, 0), x.ofGauge(0, 0), x.ofGauge(0, 1), x.ofGauge(0, 2), x.ofGauge(0, 3)};
+        int[] before = {7, 104, 5, 6, 999};
+        for (int i = 0; i < before.length; i++) {
+            Due.is("undo: over another", undone[i], before[i]);
+        }
+        x.undo();
+        x.undo();
+        x.undo();
+        Due.is("undo: over another", x.ofRing(0, 0), 5);
     }
 
     private static void change(GaugeColumns x, int change) {

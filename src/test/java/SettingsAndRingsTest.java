@@ -14,6 +14,7 @@ public final class SettingsAndRingsTest {
         ofRing();
         count();
         weightAndPressure();
+        sixGauges();
         Due.end("SettingsAndRingsTest");
     }
 
@@ -255,5 +256,34 @@ public final class SettingsAndRingsTest {
         Due.is("pressure: rounded down", x.count(5), 16633);
         x.set(1, 99);
         Due.is("pressure: rounded down", x.count(5), 504);
+
+        GaugeColumns y = new GaugeColumns();
+        y.set(0, 9);
+        for (int i = 0; i < 14; i++) {
+            y.ring(i < 13 ? 9999 : 9567);
+            y.stack(i);
+        }
+        // 139654 * 145 / 100000 is 202.4983
+        Due.is("weight: a little less than a half", y.count(4), 139452);
+    }
+
+    /** Every gauge that there can be follows, and loses its certificate. */
+    private static void sixGauges() {
+        GaugeColumns x = new GaugeColumns();
+        x.ring(100);
+        for (int i = 0; i < 6; i++) {
+            x.gauge(0, i, 1);
+            x.certify(i);
+            Due.is("six gauges: certificates", x.count(6), i + 1);
+        }
+        x.stack(0);
+        for (int i = 0; i < 6; i++) {
+            Due.is("six gauges: hand " + i, x.ofGauge(i, 3), 2000 - i);
+        }
+        x.ring(1);
+        for (int i = 0; i < 6; i++) {
+            Due.is("six gauges: void " + i, x.ofGauge(i, 5), 0);
+        }
+        Due.is("six gauges: none", x.count(6), 0);
     }
 }

@@ -37,6 +37,12 @@ public final class WhatIfTest {
         x.set(1, 3);
         Due.is("pressure: AIR 9, AREA 3", x.pressure(7), 43266);
         Due.is("pressure without rings", new GaugeColumns().pressure(5), 1000);
+        GaugeColumns lost = withRings(500, 200);
+        lost.lose();
+        Due.is("pressure: a lost ring does not matter", lost.pressure(3), 5990);
+        GaugeColumns all = withRings(1, 1, 1, 1, 1, 1, 1, 1, 1, 1, 1, 1, 1, 1);
+        Due.is("pressure of 14 rings", all.pressure(16383), 1140);
+        Due.is("pressure of 14 rings, and others", all.pressure(Integer.MAX_VALUE), 1140);
     }
 
     private static void nearest() {
@@ -118,6 +124,7 @@ public final class WhatIfTest {
         // 1010 reads 1008, 5000 reads 5004, 1000 reads 999
         Due.is("test: a step", x.test(3, 0), 4);
         Due.is("test: a step", x.test(3, 2), 1);
+        Due.is("test: never wrong, behind another test", x.test(2, 2), 0);
     }
 
     private static void testAsItWouldBeNow() {
@@ -159,7 +166,6 @@ public final class WhatIfTest {
         GaugeColumns y = withRings(1);
         y.set(1, 1);
         y.gauge(0, 99, 99);
-        // Pressures 10100, 10000; the least greatest wrong is of an error below 0
         int best = 0;
         int least = Integer.MAX_VALUE;
         for (int error = -99; error <= 99; error++) {
@@ -171,6 +177,17 @@ public final class WhatIfTest {
         }
         Due.is("bestError: as tests tell", y.bestError(0, 0), best + 100);
         Due.is("bestError: as tests tell", y.bestError(0, 1), least);
+
+        GaugeColumns z = withRings(1);
+        z.set(1, 99);
+        z.gauge(0, 99, 1);
+        z.gauge(0, 0, 99);
+        // Pressures 102, 101: 99 alone lifts T to 112, and the hand to 13, where it stays
+        Due.is("bestError: the greatest error", z.bestError(0, 0), 199);
+        Due.is("bestError: the greatest error", z.bestError(0, 1), 89);
+        // Every error reads 99
+        Due.is("bestError: the least error", z.bestError(1, 0), 1);
+        Due.is("bestError: the least error", z.bestError(1, 1), 3);
     }
 
     private static void airCosts() {
