@@ -2,15 +2,21 @@
 final class Due {
     private static int asked = 0;
     private static int wrong = 0;
+    private static String said = "";
 
     private Due() {
+    }
+
+    /** The sentence of the document that the answers from here on are due by. */
+    static void sentence(String words) {
+        said = words + ": ";
     }
 
     static void is(String call, long got, long want) {
         asked++;
         if (got != want) {
             wrong++;
-            System.out.println(call + " answered " + got + ", due is " + want);
+            System.out.println(said + call + " answered " + got + ", due is " + want);
         }
     }
 
@@ -18,8 +24,19 @@ final class Due {
         asked++;
         if (!holds) {
             wrong++;
-            System.out.println("does not hold: " + what);
+            System.out.println(said + "does not hold: " + what);
         }
+    }
+
+    static void same(String what, int[] got, int[] want) {
+        is(what + ", how many", got.length, want.length);
+        for (int i = 0; i < Math.min(got.length, want.length); i++) {
+            is(what + ", number " + i, got[i], want[i]);
+        }
+    }
+
+    static int asked() {
+        return asked;
     }
 
     static void end(String test) {

@@ -55,15 +55,12 @@ public final class HistoryTest {
             if (change == 9) {
                 x.set(0, 9);
             }
-            int[] before = state(x);
+            int[] before = Testers.state(x);
             int could = Math.min(x.count(11) + 1, 6);
             change(x, change);
             Due.is("undo: recorded " + change, x.count(11), could);
             Due.is("undo: of " + change, x.undo(), could - 1);
-            int[] behind = state(x);
-            for (int i = 0; i < before.length; i++) {
-                Due.is("undo: of " + change + ", " + i, behind[i], before[i]);
-            }
+            Due.same("undo: of " + change, Testers.state(x), before);
         }
     }
 
@@ -78,21 +75,19 @@ public final class HistoryTest {
         x.ring(7);
         x.gauge(4, 5, 6);
         x.restore(0);
-        int[] restored = {x.ofRing(0, 0), x.ofGauge(0, 0), x.ofGauge(0, 1), x.ofGauge(0, 2), x.ofGauge(0, 3)};
         int[] due = {5, 101, 2, 3, 999};
-        for (int i = 0; i < due.length; i++) {
-            Due.is("restore: over another", restored[i], due[i]);
-        }
+        Due.same("restore: over another", ringAndGauge(x), due);
         x.undo();
-        int[] undone = {x.ofRing(0, 0), x.ofGauge(0, 0), x.ofGauge(0, 1), x.ofGauge(0, 2), x.ofGauge(0, 3)};
         int[] before = {7, 104, 5, 6, 999};
-        for (int i = 0; i < before.length; i++) {
-            Due.is("undo: over another", undone[i], before[i]);
-        }
+        Due.same("undo: over another", ringAndGauge(x), before);
         x.undo();
         x.undo();
         x.undo();
         Due.is("undo: over another", x.ofRing(0, 0), 5);
+    }
+
+    private static int[] ringAndGauge(GaugeColumns x) {
+        return new int[] {x.ofRing(0, 0), x.ofGauge(0, 0), x.ofGauge(0, 1), x.ofGauge(0, 2), x.ofGauge(0, 3)};
     }
 
     private static void change(GaugeColumns x, int change) {
@@ -108,24 +103,6 @@ public final class HistoryTest {
             case 8: Due.put(x, "m9;+0;a3"); x.carryOut(); break;
             default: x.restore(1); break;
         }
-    }
-
-    private static int[] state(GaugeColumns x) {
-        int[] state = new int[26];
-        for (int what = 0; what < 10; what++) {
-            state[what] = x.count(what);
-        }
-        for (int what = 0; what < 8; what++) {
-            state[10 + what] = x.ofGauge(0, what);
-        }
-        for (int place = 0; place < 4; place++) {
-            state[18 + place] = x.reading(0, place);
-        }
-        for (int ring = 0; ring < 2; ring++) {
-            state[22 + 2 * ring] = x.ofRing(ring, 0);
-            state[23 + 2 * ring] = x.ofRing(ring, 1);
-        }
-        return state;
     }
 
     private static void undoAroundTheCircle() {
@@ -212,7 +189,7 @@ public final class HistoryTest {
         x.set(2, 300);
         x.stack(1);
         x.certify(0);
-        int[] saved = state(x);
+        int[] saved = Testers.state(x);
         x.save(0);
         Due.is("restore: the other slot", x.restore(1), NOT_POSSIBLE);
         for (int round = 0; round < 2; round++) {
@@ -222,10 +199,7 @@ public final class HistoryTest {
             Due.put(x, "m7");
             Due.is("restore(0)", x.restore(0), 2);
             Due.is("restore: not the pad", x.wipe(), 2);
-            int[] restored = state(x);
-            for (int i = 0; i < saved.length; i++) {
-                Due.is("restore: " + i, restored[i], saved[i]);
-            }
+            Due.same("restore: round " + round, Testers.state(x), saved);
         }
     }
 

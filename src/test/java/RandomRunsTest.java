@@ -1,7 +1,10 @@
 /** All promises: long runs of calls by a fixed row of numbers, compared with the model of the document. */
 public final class RandomRunsTest {
-    private static final int RUNS = 600;
+    private static final int RUNS = 10000;
+    // What is promised of an object; what comparing everything takes of it; and more than any one step takes
     private static final int CALLS = 512;
+    private static final int FOR_EVERYTHING = 12 + 14 * 3 + 6 * 8 + 6 * 28;
+    private static final int FOR_A_STEP = 40;
     private static final int[] EDGES = {0, 1, -1, 2, 3, 9, 10, 13, 14, 98, 99, 100, -99, -100, 999, 1000, 9999, 10000,
         Integer.MAX_VALUE, Integer.MIN_VALUE};
     private static final String[] ORDERS = {"m1", "m500", "m9999", "m0", "m37", "g0,0,1", "g-5,10,3", "g99,99,99", "g-99,0,0", "+0", "+1",
@@ -33,21 +36,16 @@ public final class RandomRunsTest {
         seed = run * 7919L + 17;
         program = new GaugeColumns();
         model = new Model();
-        int calls = 0;
-        int manyRings = below(4);
-        while (calls < CALLS) {
+        int first = Due.asked();
+        while (Due.asked() - first < CALLS - FOR_EVERYTHING - FOR_A_STEP) {
             int kind = below(46);
             // The nearest column of many rings takes the model long
-            if (kind == 20 && model.count(0) > 8 && below(20) != 0) {
-                continue;
+            if (kind != 20 || model.count(0) <= 8 || below(20) == 0) {
+                call(run + "." + (Due.asked() - first), kind);
             }
-            calls++;
-            if (kind < 3 && manyRings == 0) {
-                kind = 2;
-            }
-            call(run + "." + calls, kind);
         }
-        compare("run " + run);
+        compareEverything("run " + run);
+        Due.holds("run " + run + " keeps to the calls of an object", Due.asked() - first <= CALLS);
     }
 
     private void call(String at, int kind) {
@@ -153,11 +151,11 @@ public final class RandomRunsTest {
                 if (model.count(10) > 0) {
                     Due.is(at + " wipe()", program.wipe(), model.wipe());
                 }
-                compare(at);
+                compareSome(at);
                 break;
             case 43:
                 Due.is(at + " undo()", program.undo(), model.undo());
-                compare(at);
+                compareSome(at);
                 break;
             case 44:
                 Due.is(at + " save(" + slot + ")", program.save(slot), model.save(slot));
@@ -165,7 +163,7 @@ public final class RandomRunsTest {
             default:
                 if (below(3) == 0) {
                     Due.is(at + " restore(" + slot + ")", program.restore(slot), model.restore(slot));
-                    compare(at);
+                    compareSome(at);
                 }
                 break;
         }
@@ -193,23 +191,42 @@ public final class RandomRunsTest {
         }
     }
 
+    /** The numbers of the tester, and what a gauge and a ring tell. */
+    private void compareSome(String at) {
+        compareCounts(at);
+        compareRing(at, below(14));
+        compareGauge(at, below(6));
+    }
+
     /** Everything that can be asked of the state. */
-    private void compare(String at) {
-        for (int what = 0; what < 12; what++) {
-            Due.is(at + " count(" + what + ")", program.count(what), model.count(what));
-        }
+    private void compareEverything(String at) {
+        compareCounts(at);
         for (int ring = 0; ring < 14; ring++) {
-            for (int what = 0; what < 3; what++) {
-                Due.is(at + " ofRing(" + ring + ", " + what + ")", program.ofRing(ring, what), model.ofRing(ring, what));
-            }
+            compareRing(at, ring);
         }
         for (int gauge = 0; gauge < 6; gauge++) {
-            for (int what = 0; what < 8; what++) {
-                Due.is(at + " ofGauge(" + gauge + ", " + what + ")", program.ofGauge(gauge, what), model.ofGauge(gauge, what));
-            }
+            compareGauge(at, gauge);
             for (int place = 0; place < 28; place++) {
                 Due.is(at + " reading(" + gauge + ", " + place + ")", program.reading(gauge, place), model.reading(gauge, place));
             }
+        }
+    }
+
+    private void compareCounts(String at) {
+        for (int what = 0; what < 12; what++) {
+            Due.is(at + " count(" + what + ")", program.count(what), model.count(what));
+        }
+    }
+
+    private void compareRing(String at, int ring) {
+        for (int what = 0; what < 3; what++) {
+            Due.is(at + " ofRing(" + ring + ", " + what + ")", program.ofRing(ring, what), model.ofRing(ring, what));
+        }
+    }
+
+    private void compareGauge(String at, int gauge) {
+        for (int what = 0; what < 8; what++) {
+            Due.is(at + " ofGauge(" + gauge + ", " + what + ")", program.ofGauge(gauge, what), model.ofGauge(gauge, what));
         }
     }
 }

@@ -14,16 +14,8 @@ public final class WhatIfTest {
         Due.end("WhatIfTest");
     }
 
-    private static GaugeColumns withRings(int... grams) {
-        GaugeColumns x = new GaugeColumns();
-        for (int mass : grams) {
-            x.ring(mass);
-        }
-        return x;
-    }
-
     private static void pressure() {
-        GaugeColumns x = withRings(500, 200, 500);
+        GaugeColumns x = Testers.withRings(500, 200, 500);
         x.stack(1);
         int[] due = {1000, 5990, 3000, 7990, 5990, 10990, 7990, 12980};
         for (int rings = 0; rings < 8; rings++) {
@@ -37,10 +29,10 @@ public final class WhatIfTest {
         x.set(1, 3);
         Due.is("pressure: AIR 9, AREA 3", x.pressure(7), 43266);
         Due.is("pressure without rings", new GaugeColumns().pressure(5), 1000);
-        GaugeColumns lost = withRings(500, 200);
+        GaugeColumns lost = Testers.withRings(500, 200);
         lost.lose();
         Due.is("pressure: a lost ring does not matter", lost.pressure(3), 5990);
-        GaugeColumns all = withRings(1, 1, 1, 1, 1, 1, 1, 1, 1, 1, 1, 1, 1, 1);
+        GaugeColumns all = Testers.withRings(1, 1, 1, 1, 1, 1, 1, 1, 1, 1, 1, 1, 1, 1);
         Due.is("pressure of 14 rings", all.pressure(16383), 1140);
         Due.is("pressure of 14 rings, and others", all.pressure(Integer.MAX_VALUE), 1140);
     }
@@ -54,7 +46,7 @@ public final class WhatIfTest {
         Due.is("nearest(0, -1)", none.nearest(0, -1), BAD_VALUE);
         Due.is("nearest(0, 2)", none.nearest(0, 2), BAD_VALUE);
 
-        GaugeColumns fewest = withRings(10, 10, 20);
+        GaugeColumns fewest = Testers.withRings(10, 10, 20);
         Due.is("nearest: of equal pressures the fewest rings", fewest.nearest(1200, 0), 4);
         Due.is("nearest: of as many rings the least number", fewest.nearest(1100, 0), 1);
         Due.is("nearest: two as far off, the fewest rings", fewest.nearest(1050, 0), 0);
@@ -64,10 +56,10 @@ public final class WhatIfTest {
         Due.is("nearest: one more", fewest.nearest(1151, 1), 1200);
         Due.is("nearest: all", fewest.nearest(9999, 0), 7);
 
-        GaugeColumns higher = withRings(10, 20, 60);
+        GaugeColumns higher = Testers.withRings(10, 20, 60);
         Due.is("nearest: fewer rings with a greater number", higher.nearest(1450, 0), 4);
         Due.is("nearest: fewer rings with a greater number", higher.nearest(1450, 1), 1600);
-        GaugeColumns falling = withRings(30, 10);
+        GaugeColumns falling = Testers.withRings(30, 10);
         Due.is("nearest: the least number with a greater pressure", falling.nearest(1200, 0), 1);
         Due.is("nearest: the least number with a greater pressure", falling.nearest(1200, 1), 1300);
         falling.set(1, 99);
@@ -128,7 +120,7 @@ public final class WhatIfTest {
     }
 
     private static void testAsItWouldBeNow() {
-        GaugeColumns x = withRings(9999);
+        GaugeColumns x = Testers.withRings(9999);
         x.gauge(99, 0, 1);
         x.stack(0);
         Due.is("now: 100870 * 99 / 1000", x.test(0, 0), 9986);
@@ -163,22 +155,23 @@ public final class WhatIfTest {
         Due.is("bestError: of several the least", x.bestError(0, 0), 99);
         Due.is("bestError: of several the least", x.bestError(0, 1), 0);
 
-        GaugeColumns y = withRings(1);
+        GaugeColumns y = Testers.withRings(1);
         y.set(1, 1);
         y.gauge(0, 99, 99);
         int best = 0;
         int least = Integer.MAX_VALUE;
         for (int error = -99; error <= 99; error++) {
             y.tune(0, error);
-            if (y.test(0, 0) < least) {
-                least = y.test(0, 0);
+            int greatest = y.test(0, 0);
+            if (greatest < least) {
+                least = greatest;
                 best = error;
             }
         }
         Due.is("bestError: as tests tell", y.bestError(0, 0), best + 100);
         Due.is("bestError: as tests tell", y.bestError(0, 1), least);
 
-        GaugeColumns z = withRings(1);
+        GaugeColumns z = Testers.withRings(1);
         z.set(1, 99);
         z.gauge(0, 99, 1);
         z.gauge(0, 0, 99);
@@ -218,12 +211,13 @@ public final class WhatIfTest {
     }
 
     private static void nothingChanges() {
-        GaugeColumns x = withRings(500, 20);
+        GaugeColumns x = Testers.withRings(500, 20);
         x.gauge(10, 30, 7);
         x.stack(1);
         x.set(2, 999);
         x.certify(0);
-        int[] before = state(x);
+        int[] before = Testers.state(x);
+        int[] padAndHistory = Testers.padAndHistory(x);
         x.pressure(3);
         x.nearest(5000, 0);
         x.test(0, 0);
@@ -234,23 +228,7 @@ public final class WhatIfTest {
         x.test(9, 0);
         x.bestError(9, 0);
         x.airCosts(99);
-        int[] behind = state(x);
-        for (int i = 0; i < before.length; i++) {
-            Due.is("nothing changes: " + i, behind[i], before[i]);
-        }
-    }
-
-    private static int[] state(GaugeColumns x) {
-        int[] state = new int[24];
-        for (int what = 0; what < 12; what++) {
-            state[what] = x.count(what);
-        }
-        for (int what = 0; what < 8; what++) {
-            state[12 + what] = x.ofGauge(0, what);
-        }
-        for (int place = 0; place < 4; place++) {
-            state[20 + place] = x.reading(0, place);
-        }
-        return state;
+        Due.same("nothing changes: what there is", Testers.state(x), before);
+        Due.same("nothing changes: the pad and the history", Testers.padAndHistory(x), padAndHistory);
     }
 }
